@@ -23,6 +23,7 @@ public final class WoolTellsPromisesTest {
         promise7ValleyAsTold();
         promise7ValleyFaults();
         promise7ValleyInPlaceOfAnother();
+        promise7ValleyOfAnEmptiedTape();
         promise8Fault();
         promise9Knit();
         promise10Unpick();
@@ -291,6 +292,13 @@ public final class WoolTellsPromisesTest {
         dueFault("knitter 1 1;", 1, 0);
         dueFault("knitterss 1 1;", 1, 0);
         dueFault("Knitters 1 1;", 1, 0);
+        dueFault("snitters 1 1;", 1, 0);
+        dueFault("zebra", 1, 0);
+        dueFault("knittersz 1 1;", 1, 0);
+        dueFault("knitters{", 1, 8);
+        dueFault("knitters`", 1, 8);
+        dueFault("knitters/", 1, 8);
+        dueFault("knitters 1: 1;", 1, 10);
         dueFault("knitters\t1 1;", 1, 8);
         dueFault("knitters", 1, 8);
         dueFault("knitters 0 1;", 2, 9);
@@ -325,6 +333,10 @@ public final class WoolTellsPromisesTest {
         dueFault("knitters 1 1; saying 0 9 0;", 1, 26);
         dueFault("knitters 1 1; saying 0 9 0 0; wool cap 0 1;", 1, 30);
         dueFault("knitters 1 1; saying 0 9 0 0; ;", 1, 30);
+        dueFault(" ".repeat(392) + "knitters", 1, 400);
+        dueFault(" ".repeat(390) + "knitters 1", 1, 400);
+        dueFault("\n".repeat(400), 1, 400);
+        dueWools(" ".repeat(387) + "knitters 1 1;", 0);
         String seven = "knitters 1 1;" + "wool cap0 1;".repeat(7);
         dueWools(seven, 7);
         dueFault(seven + " wool cap0 1;", 3, seven.length() + 1);
@@ -355,6 +367,24 @@ public final class WoolTellsPromisesTest {
         due("images stay", x.restore(0), 1);
         due("as it was", x.wool(0, 0), 7);
         due("no saying is left", x.count(3), 0);
+        Check.feed(x, "knitters 1 1; wool cap 0 1; saying 0 9 0 0; saying 0 9 0 2;");
+        due("a fault behind a saying", x.valley(), -1000157);
+        Check.feed(x, "knitters 1 1; wool net 0 1; saying 0 9 0 1;");
+        due("nothing is left of a text with a fault: wools", x.valley(), 1);
+        due("nothing is left of a text with a fault: sayings", x.count(3), 1);
+        due("nothing is left of a text with a fault: facts", x.known(0), 1);
+    }
+
+    private static void promise7ValleyOfAnEmptiedTape() {
+        WoolTells x = new WoolTells();
+        Check.feed(x, "knittersknitters 1111111");
+        x.valley();
+        Check.feed(x, "knitters");
+        due("a name that ended further behind", x.valley(), -1000108);
+        Check.feed(x, "knitters 1111111");
+        x.valley();
+        Check.feed(x, "knitters 1");
+        due("a number that ended further behind", x.valley(), -1000110);
     }
 
     private static void promise8Fault() {
@@ -561,6 +591,10 @@ public final class WoolTellsPromisesTest {
         due("no lies where there are no worlds", x.worlds(1), 0);
         due("worlds(2)", x.worlds(2), BAD);
         due("worlds(-1)", x.worlds(-1), BAD);
+        due("a lie told first", Check.told("knitters 1 1; wool net 0 1; saying 0 0 0 1; saying 0 9 0 0;").worlds(1), 1);
+        due("no lies of a fact that is not known", Check.told("knitters 1 1; wool cap 0 1; wool net 0 1;"
+                + " saying 0 0 0 1; saying 0 0 0 0; saying 0 1 0 1;").worlds(1), 0);
+        due("one world", Check.told("knitters 1 1; saying 0 9 0 0;").worlds(0), 1);
         due("all facts are free", Check.told("knitters 1 6;").worlds(0), 64);
         due("no valley ahead of bad", new WoolTells().worlds(2), STATE);
     }
@@ -587,6 +621,7 @@ public final class WoolTellsPromisesTest {
                 + " saying 0 1 0 1; saying 0 0 0 1; saying 0 2 1 1; saying 0 2 1 0;");
         due("alike by two", two.out(0, 1), 1);
         due("never known without both", two.out(1, 0), NONE);
+        due("one world alone", Check.told("knitters 1 1; wool cap 0 1; saying 0 0 0 0;").out(0, 0), 1);
         due("out(2, 0)", two.out(2, 0), BAD);
         due("out(-1, 0)", two.out(-1, 0), BAD);
         due("out(0, 2)", two.out(0, 2), BAD);
@@ -627,6 +662,14 @@ public final class WoolTellsPromisesTest {
         dueWear(Check.told("knitters 3 1; wool cap 0 9;"), 0, 11, -1, -1, 0);
         dueWear(Check.told("knitters 3 1; wool cap 0 9; wool jersey 1 11;"), 0, 22, -1, 0, 1);
         dueWear(Check.told("knitters 2 1; wool cap 1 9; wool jersey 0 11;"), 3, 22, 0, 1);
+        WoolTells most = Check.told("knitters 5 1; wool cap 0 1; wool cap 0 2; wool cap 0 3; wool cap 0 4;"
+                + "wool cap 0 5; wool cap 0 6; wool cap 0 7;");
+        dueWear(most, 0, 35, 2, 3, 4, 5, 6);
+        dueWear(most, 1, 30, -1, 3, 4, 5, 6);
+        Check.feed(most, "knitters 2 1; wool cap 0 1; wool jersey 0 3; wool jersey 1 3;");
+        most.valley();
+        dueWear(most, 0, 6, 0, 1);
+        dueWear(most, 3, 6, 2, 0);
         WoolTells odd = Check.told("knitters 1 1; wool stocking 0 5;");
         dueWear(odd, 1, 5, 0);
         odd.knit(0, 1);
