@@ -462,6 +462,13 @@ public final class WoolTellsPromisesTest {
         WoolTells few = Check.told("knitters 1 1; wool net 0 1; wool net 0 1; wool net 0 1;");
         due("as far as there are", few.moths(1), 3);
         due("nothing is left to eat", few.moths(1), 0);
+        WoolTells most = Check.told("knitters 1 1;" + "wool net 0 9;".repeat(7));
+        // The draws behind the first five: 470211272, 101027544 by 3: 2, 0.
+        due("of seven wools", most.moths(1), 9);
+        Check.feed(most, "knitters 1 1; wool net 0 9;");
+        most.valley();
+        due("wools of the valley before are not eaten", most.moths(1), 1);
+        due("lines of the valley before do not count", most.count(5), 8);
         due("an act by which nothing becomes another", few.count(4), 2);
     }
 
