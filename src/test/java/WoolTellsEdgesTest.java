@@ -1,6 +1,6 @@
 import java.io.IOException;
 
-/** The edges that the document names, by its own words; no word of the terms and promises is left out. */
+/** The edges that the document names, by its own words; no sentence of the terms and promises is left out. */
 public final class WoolTellsEdgesTest {
     private WoolTellsEdgesTest() {
     }
