@@ -38,7 +38,6 @@ public final class WoolTells {
     private final Row[] rows = new Row[ROWS];
     private int finding;
 
-    private final Tape tape = new Tape();
     private final Reader reader = new Reader();
     private int latestFault;
 
@@ -139,16 +138,16 @@ public final class WoolTells {
         if (n < 1 || n > BYTES_OF_A_LONG) {
             return BAD;
         }
-        if (n > MOST_BYTES - tape.length) {
+        if (n > MOST_BYTES - reader.tape.length) {
             return FULL;
         }
-        tape.append(w, n);
-        return tape.length;
+        reader.tape.append(w, n);
+        return reader.tape.length;
     }
 
     public int valley() {
-        reader.read(tape, draft);
-        tape.length = 0;
+        reader.read(draft);
+        reader.tape.length = 0;
         if (reader.faultNumber != 0) {
             latestFault = reader.faultNumber;
             return FAULTS - reader.faultPlace;
@@ -278,7 +277,7 @@ public final class WoolTells {
     // ---- foretold
 
     public int known(int fact) {
-        return isFact(fact) ? current.knowledge(fact, 0) : BAD;
+        return isFact(fact) ? current.knowledge(fact) : BAD;
     }
 
     public int worlds(int what) {
@@ -288,7 +287,7 @@ public final class WoolTells {
         if (what < 0 || what > 1) {
             return BAD;
         }
-        return what == 0 ? current.possibleWorlds(0) : current.lies();
+        return what == 0 ? current.possibleWorlds() : current.lies();
     }
 
     public int out(int fact, int what) {
@@ -426,7 +425,7 @@ public final class WoolTells {
             case 6:
                 return current.countBound();
             case 7:
-                return tape.length;
+                return reader.tape.length;
             default:
                 return BAD;
         }
@@ -635,19 +634,18 @@ public final class WoolTells {
         }
     }
 
-    /** Reads a text into a VALLEY; behind the first FAULT nothing more is read. */
+    /** Reads the text on its tape into a VALLEY; behind the first FAULT nothing more is read. */
     private static final class Reader {
-        private Tape text;
+        private final Tape tape = new Tape();
         private int faultNumber;
         private int faultPlace;
 
-        private void read(Tape tape, Valley into) {
-            text = tape;
+        private void read(Valley into) {
             faultNumber = 0;
             faultPlace = 0;
             into.wools = 0;
             into.sayings = 0;
-            text.rewind();
+            tape.rewind();
             readKnitters(into);
             // One round more than there is room for: it is the one that finds the FAULT.
             for (int w = 0; w <= MOST_WOOLS && isNext("wool"); w++) {
@@ -656,7 +654,7 @@ public final class WoolTells {
             for (int s = 0; s <= MOST_SAYINGS && isNext("saying"); s++) {
                 readSaying(into);
             }
-            if (text.token != Tape.END) {
+            if (tape.token != Tape.END) {
                 fail(MISPLACED);
             }
         }
@@ -698,15 +696,15 @@ public final class WoolTells {
         }
 
         private boolean isNext(String word) {
-            return faultNumber == 0 && text.isWord(word);
+            return faultNumber == 0 && tape.isWord(word);
         }
 
         private void readWord(String word) {
-            stepIf(text.isWord(word));
+            stepIf(tape.isWord(word));
         }
 
         private void readSign() {
-            stepIf(text.token == Tape.SIGN);
+            stepIf(tape.token == Tape.SIGN);
         }
 
         private int readSort() {
@@ -716,29 +714,29 @@ public final class WoolTells {
         }
 
         private int sortTold() {
-            if (text.isWord("jersey")) {
+            if (tape.isWord("jersey")) {
                 return JERSEY;
             }
-            if (text.isWord("scarf")) {
+            if (tape.isWord("scarf")) {
                 return SCARF;
             }
-            if (text.isWord("cap")) {
+            if (tape.isWord("cap")) {
                 return CAP;
             }
-            if (text.isWord("stocking")) {
+            if (tape.isWord("stocking")) {
                 return STOCKING;
             }
-            return text.isWord("net") ? NET : 0;
+            return tape.isWord("net") ? NET : 0;
         }
 
         private int readNumber(int least, int most) {
-            if (faultNumber == 0 && text.token == Tape.NUMBER) {
-                int value = text.value();
+            if (faultNumber == 0 && tape.token == Tape.NUMBER) {
+                int value = tape.value();
                 if (value < least || value > most) {
                     fail(NOT_AS_TOLD);
                     return 0;
                 }
-                text.step();
+                tape.step();
                 return value;
             }
             fail(MISPLACED);
@@ -746,8 +744,8 @@ public final class WoolTells {
         }
 
         private int readWorn(int wools) {
-            if (faultNumber == 0 && text.token == Tape.NUMBER && text.value() == WORD_FOR_NONE) {
-                text.step();
+            if (faultNumber == 0 && tape.token == Tape.NUMBER && tape.value() == WORD_FOR_NONE) {
+                tape.step();
                 return NO_WOOL;
             }
             return readNumber(0, wools - 1);
@@ -758,7 +756,7 @@ public final class WoolTells {
                 return;
             }
             if (standsThere) {
-                text.step();
+                tape.step();
             } else {
                 fail(MISPLACED);
             }
@@ -767,7 +765,7 @@ public final class WoolTells {
         private void fail(int number) {
             if (faultNumber == 0) {
                 faultNumber = number;
-                faultPlace = text.tokenBegin;
+                faultPlace = tape.tokenBegin;
             }
         }
     }
@@ -891,24 +889,24 @@ public final class WoolTells {
             return set;
         }
 
-        private int knowledge(int fact, int unpicked) {
-            boolean saidSo = isIn(factsSaid(1, unpicked), fact);
-            boolean saidNot = isIn(factsSaid(0, unpicked), fact);
+        private int knowledge(int fact) {
+            boolean saidSo = isIn(factsSaid(1, 0), fact);
+            boolean saidNot = isIn(factsSaid(0, 0), fact);
             if (saidSo) {
                 return saidNot ? BOTH : 1;
             }
             return saidNot ? 0 : UNTOLD;
         }
 
-        private int possibleWorlds(int unpicked) {
-            int so = factsSaid(1, unpicked);
-            int not = factsSaid(0, unpicked);
+        private int possibleWorlds() {
+            int so = factsSaid(1, 0);
+            int not = factsSaid(0, 0);
             return (so & not) != 0 ? 0 : 1 << facts - Integer.bitCount(so | not);
         }
 
         /** A FACT that is not KNOWN is so in some of WORLDS, and not in others: no SAYING of it is a lie. */
         private int lies() {
-            if (possibleWorlds(0) == 0) {
+            if (possibleWorlds() == 0) {
                 return 0;
             }
             int so = factsSaid(1, 0);
@@ -936,8 +934,11 @@ public final class WoolTells {
             return best;
         }
 
+        /** There is one of WORLDS at least where no FACT is said to be so and not so. */
         private boolean comesOut(int fact, int unpicked) {
-            return knowledge(fact, unpicked) >= 0 && possibleWorlds(unpicked) > 0;
+            int so = factsSaid(1, unpicked);
+            int not = factsSaid(0, unpicked);
+            return (so & not) == 0 && isIn(so | not, fact);
         }
 
         private int firstContradiction() {
