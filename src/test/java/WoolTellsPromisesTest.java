@@ -47,6 +47,7 @@ public final class WoolTellsPromisesTest {
         promise27Trace();
         promise28Count();
         promise29Status();
+        exampleOfTheReadme();
         CHECK.close();
     }
 
@@ -915,5 +916,21 @@ public final class WoolTellsPromisesTest {
 
     private static void dueStatus(WoolTells x, String behind, int number) {
         due("status behind " + behind, x.status(), number);
+    }
+
+    /** README.md shows this use, with these answers. */
+    private static void exampleOfTheReadme() {
+        WoolTells x = new WoolTells();
+        String text = "knitters 2 1; wool jersey 0 3; saying 0 0 0 1;";
+        for (int i = 0; i < text.length(); i++) {
+            due("feed of one byte", x.feed(text.charAt(i), 1), i + 1);
+        }
+        due("valley", x.valley(), 1);
+        due("known 0", x.known(0), -1);
+        due("out 0 0", x.out(0, 0), 3);
+        due("unpick 0 3", x.unpick(0, 3), 3);
+        due("known 0, once unpicked", x.known(0), 1);
+        due("undo", x.undo(), 0);
+        due("known 0, once undone", x.known(0), -1);
     }
 }
